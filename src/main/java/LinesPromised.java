@@ -93,7 +93,7 @@ public final class LinesPromised {
     public int force(int word, int day) {
         if (!within(word, 0, WORDS - 1)) return NONE;
         if (!isDay(day)) return BAD;
-        if (word == LET) return now.ordering(LET, day) == NONE ? 0 : 1;
+        if (word == LET) return now.ruling(LET, day) == null ? 0 : 1;
         return now.ruleOf(word, day);
     }
 
@@ -101,7 +101,8 @@ public final class LinesPromised {
         if (!within(word, 0, WORDS - 1)) return NONE;
         if (!isDay(day)) return BAD;
         int by = now.ordering(word, day);
-        return by == NONE ? NOWHERE : 100 * by + now.orders[by].place[word];
+        Order order = now.ruling(word, day);
+        return order == null ? NOWHERE : 100 * by + order.place[word];
     }
 
     // ---- papers
@@ -377,14 +378,7 @@ public final class LinesPromised {
         int fault = order.faultOf();
         if (fault != NONE) return FAULT - fault;
         now.enforce(order);
-        int found = NOWHERE;
-        if (what == 0) {
-            found = now.soundPlans();
-        } else if (what == 1) {
-            found = now.billsToLet();
-        } else if (now.land.towns >= 2 && roads.seek(now, 0, 1, now.today)) {
-            found = roads.yards;
-        }
+        int found = what == 2 ? triedYards() : triedPapers(what == 0 ? PLAN : BILL);
         now.dropLatestOrder();
         return found;
     }
@@ -525,6 +519,20 @@ public final class LinesPromised {
         }
     }
 
+    private int triedYards() {
+        return now.land.towns >= 2 && roads.seek(now, 0, 1, now.today) ? roads.yards : NOWHERE;
+    }
+
+    private int triedPapers(int kind) {
+        int found = 0;
+        for (int number = 0; number < now.papers.size; number++) {
+            Paper of = now.papers.find(number, kind);
+            if (of == null) continue;
+            if (kind == PLAN ? now.isSound(of) : now.canBeLet(of, now.today)) found++;
+        }
+        return found;
+    }
+
     /** All that there is, but the image: that is a second one of these. */
     static final class World {
         final Land land = new Land();
@@ -580,7 +588,7 @@ public final class LinesPromised {
             orders[ordered] = null;
         }
 
-        /** Which order rules a word on a day, or NONE. */
+        /** The number of the order that rules a word on a day, or NONE. */
         int ordering(int word, int day) {
             int by = NONE;
             int since = NONE;
@@ -594,9 +602,14 @@ public final class LinesPromised {
             return by;
         }
 
-        int ruleOf(int word, int day) {
+        Order ruling(int word, int day) {
             int by = ordering(word, day);
-            return by == NONE ? USUAL[word] : orders[by].number[word];
+            return by == NONE ? null : orders[by];
+        }
+
+        int ruleOf(int word, int day) {
+            Order order = ruling(word, day);
+            return order == null ? USUAL[word] : order.number[word];
         }
 
         Paper survey(int scheme, Paper of, Sheet row, Sheet rises) {
@@ -636,9 +649,8 @@ public final class LinesPromised {
         }
 
         boolean canBeLet(Paper bill, int day) {
-            int by = ordering(LET, day);
-            if (by == NONE) return true;
-            Order order = orders[by];
+            Order order = ruling(LET, day);
+            if (order == null) return true;
             order.facts[YARDS] = land.yardsOf(bill.cells) / 10;
             order.facts[TRADE] = land.trade[bill.first] + land.trade[bill.second];
             order.facts[PARKED] = land.cellsOf(bill.cells, PARK);
@@ -651,24 +663,6 @@ public final class LinesPromised {
         boolean isTooSoon(int scheme) {
             int latest = papers.latestCall(scheme);
             return latest != NONE && today - latest < ruleOf(GAP, today);
-        }
-
-        int soundPlans() {
-            int sound = 0;
-            for (int number = 0; number < papers.size; number++) {
-                Paper of = papers.find(number, PLAN);
-                if (of != null && isSound(of)) sound++;
-            }
-            return sound;
-        }
-
-        int billsToLet() {
-            int lettable = 0;
-            for (int number = 0; number < papers.size; number++) {
-                Paper of = papers.find(number, BILL);
-                if (of != null && canBeLet(of, today)) lettable++;
-            }
-            return lettable;
         }
 
         void digToday() {
@@ -960,19 +954,16 @@ public final class LinesPromised {
             int fact = factOf(letter);
             if (fact == NONE) return NONE;
             at++;
-            if (fact == GAUGE) return comparedGauge();
             int sign = peek();
-            if (sign != '<' && sign != '>') return NONE;
+            if (fact == GAUGE ? sign != '=' : sign != '<' && sign != '>') return NONE;
             at++;
+            if (fact == GAUGE) return comparedGauge(peek());
             int n = readNumber();
             if (n == NONE) return NONE;
             return (sign == '<' ? facts[fact] < n : facts[fact] > n) ? 1 : 0;
         }
 
-        private int comparedGauge() {
-            if (peek() != '=') return NONE;
-            at++;
-            int sign = peek();
+        private int comparedGauge(int sign) {
             if (sign != '0' && sign != '1') return NONE;
             at++;
             return facts[GAUGE] == sign - '0' ? 1 : 0;

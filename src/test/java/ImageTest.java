@@ -1,0 +1,188 @@
+/** Promises 45 to 47: image, undo, count. */
+public final class ImageTest {
+    public static void main(String[] args) {
+        none();
+        all();
+        twice();
+        papersComeAnew();
+        count();
+        Check.end();
+    }
+
+    private static void none() {
+        LinesPromised x = new LinesPromised();
+        Check.due("no image", x.undo(), -3);
+        x.dig(3);
+        Check.due("image", x.image(), 3);
+        x.dig(2);
+        Check.due("undo", x.undo(), 3);
+        Check.due("it stays", x.undo(), 3);
+    }
+
+    /** All that the calls can tell, as one number. */
+    private static long everything(LinesPromised x) {
+        long all = 17;
+        for (int what = 0; what < 11; what++) all = 31 * all + x.count(what);
+        for (int day = 0; day < 12; day++) {
+            for (int word = 0; word < 7; word++) all = 31 * (31 * all + x.force(word, day)) + x.why(word, day);
+        }
+        for (int p = 0; p < 20; p++) {
+            for (int what = 0; what < 8; what++) all = 31 * all + x.about(p, what);
+            for (int what = 0; what < 20; what++) all = 31 * all + x.way(p, what);
+            for (int i = 0; i < 9; i++) all = 31 * (31 * all + x.held(p, i)) + x.level(p, i);
+            for (int day = 0; day < 9; day++) all = 31 * all + x.known(p, day);
+            all = 31 * (31 * (31 * all + x.purse(1, p)) + x.read(p)) + x.along(1, p);
+            all = 31 * (31 * (31 * all + x.last(p, 0)) + x.last(p, 1)) + x.cast(p, 0);
+        }
+        for (int h = 0; h < 8; h++) all = 31 * (31 * all + x.purse(0, h)) + x.along(0, h);
+        for (int h = 1; h < 40; h += 3) all = 31 * (31 * all + x.midnight(h, -1)) + x.midnight(h, 0);
+        all = 31 * (31 * all + x.doubled()) + x.meet();
+        for (int towns = 0; towns < 64; towns++) all = 31 * (31 * all + x.gauge(towns)) + x.plan(towns, 999, 9999, 1);
+        return 31 * all + x.slope(0, 2, 0, 0);
+    }
+
+    private static LinesPromised rich() {
+        LinesPromised x = Check.fourBills();
+        for (int h = 0; h < 8; h++) x.coin(h, 100 * h);
+        x.man(2);
+        Check.order(x, "gap 0;call 70;let t<90", 0, 0);
+        Check.tape(x, "close 7");
+        x.grant(8);
+        x.lend(0, 5, 70);
+        x.bar(9, 10);
+        x.board(1, 8, true);
+        x.board(1, 8, false);
+        x.board(2, 9, true);
+        x.hand(4, 2);
+        x.scrip(0, 1, 5);
+        x.scrip(0, 2, 5);
+        x.ask(0, 1, 2, 20, false);
+        x.ask(0, 4, 2, 25, true);
+        x.call(0, 60);
+        x.claim(2, 9);
+        x.dig(3);
+        Check.row(x, 0, 0, 3, 13, 23);
+        Check.row(x, 1, 2, 5, 5);
+        return x;
+    }
+
+    private static void upset(LinesPromised x) {
+        x.price(0);
+        for (int h = 0; h < 8; h++) x.coin(h, 7);
+        x.land(1, 0, 50);
+        x.land(2, 1, 2);
+        x.town(60, 3);
+        x.text(1);
+        Check.order(x, "slope 0;park n", 0, 2);
+        Check.tape(x, "x");
+        x.grant(9);
+        x.bar(8, 11);
+        x.board(2, 9, false);
+        x.hand(1, 1);
+        x.scrip(1, 3, 5);
+        x.ask(1, 1, 2, 20, false);
+        x.claim(3, 9);
+        x.dig(2);
+        x.settle();
+        x.scheme(0, 2, 1, 4);
+        x.man(50);
+        x.dig(4);
+        Check.row(x, 0, 1, 4);
+        x.sheet(1, -1, 0);
+        Check.row(x, 2, 2, 4);
+    }
+
+    private static void all() {
+        LinesPromised x = rich();
+        long was = everything(x);
+        Check.due("image", x.image(), 3);
+        upset(x);
+        Check.holds("all is other", everything(x) != was);
+        Check.due("undo", x.undo(), 3);
+        Check.due("all is as it was", everything(x), was);
+        // the sheets, too
+        Check.due("plan", x.chain(1, 0, 1), 15);
+        Check.due("its cells", x.way(15, 12), 23);
+        Check.due("its levels", x.level(15, 2), 10);
+        // the tape, too
+        Check.due("text", x.text(9), 1);
+        Check.due("close", x.force(1, 9), 7);
+        // what stands, too
+        Check.due("trade", x.price(0), 2);
+        Check.due("purse", x.purse(0, 4), 400 - 40);
+        Check.due("undo", x.undo(), 3);
+        Check.due("all is as it was", everything(x), was);
+        upset(x);
+        long upset = everything(x);
+        x.undo();
+        upset(x);
+        Check.due("the same calls do the same again", everything(x), upset);
+    }
+
+    private static void twice() {
+        LinesPromised x = rich();
+        x.image();
+        upset(x);
+        long was = everything(x);
+        Check.due("a later image", x.image(), 9);
+        x.dig(1);
+        x.coin(0, 1);
+        Check.due("undo", x.undo(), 9);
+        Check.due("as the later one", everything(x), was);
+    }
+
+    private static void papersComeAnew() {
+        LinesPromised x = Check.fourSchemes();
+        x.image();
+        Check.due("plan", Check.plan(x, 0, 0, 1, 2, 3), 4);
+        x.bill(4);
+        x.claim(0, 1);
+        x.scheme(0, 2, 0, 5);
+        Check.plan(x, 1, 3, 13, 23);
+        x.bill(8);
+        x.bar(5, 9);
+        x.board(3, 5, true);
+        x.board(3, 5, false);
+        x.grant(5);
+        x.coin(0, 500);
+        x.lend(0, 0, 500);
+        x.scrip(7, 0, 2);
+        x.man(99);
+        x.dig(1);
+        Check.due("done", x.last(5, 1), 0);
+        x.undo();
+        Check.due("plan", Check.plan(x, 0, 0, 1, 2, 3), 4);
+        Check.due("bill", x.bill(4), 5);
+        Check.due("not granted", x.last(5, 0), -3);
+        Check.due("no votes", x.doubled(), 0);
+        x.scheme(0, 2, 0, 8);
+        Check.due("no coins", x.purse(1, 6), 0);
+        Check.due("all shares", x.held(6, 8), 8);
+        Check.plan(x, 1, 3, 13, 23);
+        Check.due("bill", x.bill(7), 8);
+        x.claim(0, 1);
+        Check.due("grant", x.grant(8), 1);
+        Check.due("not done", x.last(8, 1), -5);
+        Check.due("nobody bars", x.grant(5), 2);
+        Check.due("not done", x.count(7), 0);
+        Check.due("claims", x.count(1), 10);
+        x.undo();
+        Check.tape(x, "let c<1");
+        x.text(0);
+        Check.plan(x, 0, 0, 1, 2, 3);
+        x.bill(4);
+        Check.due("no claims are left", x.hear(5, 0), 1);
+    }
+
+    private static void count() {
+        LinesPromised x = rich();
+        int[] due = {4, 15, 1, 3, 7, 2, 1, 0, 1, 2, 3};
+        for (int what = 0; what < due.length; what++) Check.due("count " + what, x.count(what), due[what]);
+        Check.due("no what", x.count(11), -1);
+        Check.due("no what", x.count(-1), -1);
+        x.man(10);
+        x.dig(1);
+        Check.due("done", x.count(7), 1);
+        Check.due("granted", x.count(6), 1);
+    }
+}
