@@ -23,6 +23,8 @@ public final class LinesPromised {
     private static final int JOBS = 7, OFFERS = 40, MOST_SHARES = 99, ROUNDS = 300;
     private static final int YARDS_A_MAN = 3, COINS_A_YARD = 2;
     private static final int RELAYABLE = 10, GRANTABLE = 8;
+    /** More than any yards or hours can be. */
+    private static final int FAR = 1000000;
 
     private final World now = new World();
     private final World kept = new World();
@@ -1392,7 +1394,7 @@ public final class LinesPromised {
             for (int job = 0; job < size; job++) {
                 if ((set >> job & 1) != 0) then += survey[job];
             }
-            int least = Integer.MAX_VALUE;
+            int least = FAR;
             for (int job = 0; job < size; job++) {
                 if ((set >> job & 1) == 0) continue;
                 least = Math.min(least, Math.max(then, ready[set & ~(1 << job)]) + print[job]);
@@ -1403,7 +1405,6 @@ public final class LinesPromised {
 
     /** The least way, sought from its end back, so that it can then be walked by the least cells. */
     static final class Roads {
-        private static final int FAR = 1000000;
         final int[] cells = new int[CELLS];
         int size, yards;
         private final int[] rest = new int[CELLS];
@@ -1630,7 +1631,9 @@ public final class LinesPromised {
 
         private boolean join(int towns, int set) {
             int reached = towns & -towns;
-            for (int round = 0; round < TOWNS; round++) {
+            int before = 0;
+            for (int round = 0; round < TOWNS && reached != before; round++) {
+                before = reached;
                 for (int i = 0; i < size; i++) {
                     if ((set >> i & 1) != 0 && (ends[i] & reached) != 0) reached |= ends[i];
                 }
