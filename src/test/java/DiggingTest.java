@@ -11,6 +11,7 @@ public final class DiggingTest {
         cheapest();
         cheapestRefusals();
         firstEight();
+        cheapestOfMany();
         known();
         knownAfterUndo();
         Check.end();
@@ -247,6 +248,25 @@ public final class DiggingTest {
         x.grant(3);
         Check.due("now it is the eighth", x.plan(6, 999, 9999, 0), 128);
         Check.due("of like ones the least as bits", x.plan(3, 999, 9999, 0), 1);
+    }
+
+    private static void cheapestOfMany() {
+        LinesPromised x = Check.fourBills();
+        x.scheme(0, 2, 0, 1);
+        Check.plan(x, 12, 0, 10, 20, 21, 22, 23);
+        Check.due("a fifth bill, straight from 0 to 2", x.bill(13), 14);
+        Check.due("of like coins the fewest", x.plan(5, 999, 999, 0), 16);
+        x.land(22, 0, 1);
+        Check.due("not the fewest of more coins", x.plan(5, 999, 999, 0), 3);
+        x.land(22, 0, 0);
+        x.bar(8, 9);
+        x.bar(8, 14);
+        x.bar(9, 14);
+        x.bar(9, 10);
+        Check.due("round", x.plan(15, 999, 999, 0), 8 + 4 + 1);
+        x.claim(13, 1);
+        Check.order(x, "let c<1", 0, 0);
+        Check.due("without the second; who bars is looked at anew", x.plan(15, 999, 999, 0), 4 + 2 + 1);
     }
 
     private static void known() {

@@ -53,6 +53,7 @@ public final class ImageTest {
         x.board(1, 8, true);
         x.board(1, 8, false);
         x.board(2, 9, true);
+        x.board(5, 9, false);
         x.hand(4, 2);
         x.scrip(0, 1, 5);
         x.scrip(0, 2, 5);
@@ -78,6 +79,7 @@ public final class ImageTest {
         x.grant(9);
         x.bar(8, 11);
         x.board(2, 9, false);
+        x.board(5, 9, true);
         x.hand(1, 1);
         x.scrip(1, 3, 5);
         x.ask(1, 1, 2, 20, false);
@@ -176,7 +178,7 @@ public final class ImageTest {
 
     private static void count() {
         LinesPromised x = rich();
-        int[] due = {4, 15, 1, 3, 7, 2, 1, 0, 1, 2, 3};
+        int[] due = {4, 15, 1, 3, 7, 2, 1, 0, 1, 2, 4};
         for (int what = 0; what < due.length; what++) Check.due("count " + what, x.count(what), due[what]);
         Check.due("no what", x.count(11), -1);
         Check.due("no what", x.count(-1), -1);

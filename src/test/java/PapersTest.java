@@ -93,6 +93,16 @@ public final class PapersTest {
         torn(x, 1, 0, -1, 1, 2, 3);
         torn(x, 1, 0, 80);
         torn(x, 9, 0, 10, 20, 30, 40, 50, 60, 70, 71, 81);
+        LinesPromised z = new LinesPromised();
+        z.town(67, 0);
+        z.town(79, 0);
+        z.scheme(0, 1, 0, 1);
+        torn(z, -5, 67, 68, 69, 79);
+        torn(z, -5, 67, 77, 78, 79);
+        torn(z, -5, 67, 57, 58, 59, 69, 79);
+        z.scheme(1, 0, 0, 1);
+        Check.due("back over the edge cells", z.way(Check.plan(z, 4, 79, 78, 68, 67), 1), -5);
+        Check.due("the least way to the last cell", z.slope(0, 1, 0, 12), 69);
         LinesPromised y = new LinesPromised();
         y.town(9, 0);
         y.town(10, 0);
@@ -287,6 +297,10 @@ public final class PapersTest {
         Check.due("20 yards", x.hear(9, 4), 1);
         x.land(13, 0, 2);
         Check.due("32 yards, as now", x.hear(9, 4), 0);
+        Check.order(x, "let (((((y<3)))))|!!!!!y<3", 5, 1);
+        Check.due("five open", x.hear(8, 5), 1);
+        Check.order(x, "let (((((y<4)))))&!(!(!y<3))", 6, 2);
+        Check.due("five open", x.hear(8, 6), 1);
         Check.due("no bill", x.hear(4, 0), -1);
         Check.due("no bill", x.hear(12, -1), -1);
         Check.due("day", x.hear(8, -1), -2);
@@ -392,5 +406,7 @@ public final class PapersTest {
         Check.due("no loan", x.lend(0, 0, 5), -4);
         Check.due("no loan, state first", x.lend(0, 0, 6), -3);
         Check.due("papers", x.count(1), 60);
+        Check.order(x, "let c<48", 0, 0);
+        Check.due("a refused claim does not count", x.hear(8, 0), 1);
     }
 }

@@ -138,6 +138,10 @@ public final class ScripTest {
         y.ask(0, 3, 9, 1, false);
         y.ask(0, 3, 99, 1, true);
         Check.due("with oneself till none are left", y.price(0), 9);
+        y.scrip(1, 4, 1);
+        y.coin(4, 1);
+        for (int i = 0; i < 40; i++) y.ask(1, 4, 99, 1, i % 2 == 0);
+        Check.due("one by one", y.price(1), 20 * 99);
     }
 
     private static void calls() {
@@ -317,6 +321,19 @@ public final class ScripTest {
         x.ask(0, 1, 3, 5, false);
         x.ask(0, 0, 3, 5, true);
         Check.due("shares still go", x.price(0), 3);
+        LinesPromised y = Check.fourBills();
+        y.grant(8);
+        y.man(1);
+        for (int holder = 0; holder < 8; holder++) {
+            y.coin(holder, 3);
+            y.lend(0, holder, 3);
+        }
+        y.dig(1);
+        Check.due("of 24 it has 18 and pays 2 of 3", y.settle(), 1 << 8);
+        Check.due("what was cut stays", y.purse(1, 0), 2);
+        Check.due("left", y.last(8, 0), 27);
+        y.dig(1);
+        Check.due("it can't dig for that", y.last(8, 0), 27);
         Check.due("for good", x.settle(), 0);
         Check.due("for good", x.about(0, 7), 1);
     }
