@@ -1,22 +1,57 @@
 import java.nio.charset.StandardCharsets;
+import java.util.function.Supplier;
 
 /** What the tests share: a count of wrong answers, and runs of calls that often come together. */
 final class Check {
     private static int wrong;
     private static int asked;
+    private static String under = "";
+
+    /** A call with one number that is looked at. */
+    interface Asked {
+        int of(LinesPromised x, int n);
+    }
 
     private Check() {
+    }
+
+    /** Tells ahead of each wrong answer from now on what it is a test of. */
+    static void under(String what) {
+        under = what + ": ";
     }
 
     static void due(String what, long got, long want) {
         asked++;
         if (got == want) return;
         wrong++;
-        if (wrong <= 50) System.out.println(what + " answered " + got + ", due is " + want);
+        if (wrong <= 50) System.out.println(under + what + " answered " + got + ", due is " + want);
     }
 
     static void holds(String what, boolean is) {
         due(what, is ? 1 : 0, 1);
+    }
+
+    /** A number is taken from least to most and refused just below, just above and far off, each on an object of its own. */
+    static void range(String what, Supplier<LinesPromised> made, Asked call, int least, int most, int refusal) {
+        for (int n : new int[] {least, most}) {
+            int got = call.of(made.get(), n);
+            holds(what + " " + n + " is taken (" + got + ")", got >= 0 || got == -5);
+        }
+        for (int n : new int[] {Integer.MIN_VALUE, least - 1, most + 1, Integer.MAX_VALUE}) {
+            due(what + " " + n, call.of(made.get(), n), refusal);
+        }
+    }
+
+    /** The fault of a text, which text and tried must both tell; the tape is empty then. */
+    static void fault(String text, int at) {
+        LinesPromised x = new LinesPromised();
+        tape(x, text);
+        due("the fault of " + text, x.text(0), -10 - at);
+        due("the tape is empty", x.count(4), 0);
+        due("no order", x.count(2), 0);
+        tape(x, text);
+        due("the fault of " + text, x.tried(0), -10 - at);
+        due("the tape is empty", x.count(4), 0);
     }
 
     /** Ends a test: with exit code 1 if an answer was wrong. */
@@ -25,14 +60,19 @@ final class Check {
         if (wrong != 0 || asked == 0) System.exit(1);
     }
 
-    /** Feeds a text, eight bytes a call. */
+    /** Feeds a text to an empty tape, eight bytes a call. */
     static void tape(LinesPromised x, String text) {
+        tape(x, text, 0);
+    }
+
+    /** The same behind so many bytes that are there. */
+    static void tape(LinesPromised x, String text, int there) {
         byte[] bytes = text.getBytes(StandardCharsets.ISO_8859_1);
         for (int at = 0; at < bytes.length; at += 8) {
             int n = Math.min(8, bytes.length - at);
             long w = 0;
             for (int i = 0; i < n; i++) w = w << 8 | (bytes[at + i] & 255);
-            due("feed of " + text, x.feed(w, n), at + n);
+            due("feed of " + text, x.feed(w, n), there + at + n);
         }
     }
 

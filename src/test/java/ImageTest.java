@@ -19,54 +19,6 @@ public final class ImageTest {
         Check.due("it stays", x.undo(), 3);
     }
 
-    /** All that the calls can tell, as one number. */
-    private static long everything(LinesPromised x) {
-        long all = 17;
-        for (int what = 0; what < 11; what++) all = 31 * all + x.count(what);
-        for (int day = 0; day < 12; day++) {
-            for (int word = 0; word < 7; word++) all = 31 * (31 * all + x.force(word, day)) + x.why(word, day);
-        }
-        for (int p = 0; p < 20; p++) {
-            for (int what = 0; what < 8; what++) all = 31 * all + x.about(p, what);
-            for (int what = 0; what < 20; what++) all = 31 * all + x.way(p, what);
-            for (int i = 0; i < 9; i++) all = 31 * (31 * all + x.held(p, i)) + x.level(p, i);
-            for (int day = 0; day < 9; day++) all = 31 * all + x.known(p, day);
-            all = 31 * (31 * (31 * all + x.purse(1, p)) + x.read(p)) + x.along(1, p);
-            all = 31 * (31 * (31 * all + x.last(p, 0)) + x.last(p, 1)) + x.cast(p, 0);
-        }
-        for (int h = 0; h < 8; h++) all = 31 * (31 * all + x.purse(0, h)) + x.along(0, h);
-        for (int h = 1; h < 40; h += 3) all = 31 * (31 * all + x.midnight(h, -1)) + x.midnight(h, 0);
-        all = 31 * (31 * all + x.doubled()) + x.meet();
-        for (int towns = 0; towns < 64; towns++) all = 31 * (31 * all + x.gauge(towns)) + x.plan(towns, 999, 9999, 1);
-        return 31 * all + x.slope(0, 2, 0, 0);
-    }
-
-    private static LinesPromised rich() {
-        LinesPromised x = Check.fourBills();
-        for (int h = 0; h < 8; h++) x.coin(h, 100 * h);
-        x.man(2);
-        Check.order(x, "gap 0;call 70;let t<90", 0, 0);
-        Check.tape(x, "close 7");
-        x.grant(8);
-        x.lend(0, 5, 70);
-        x.bar(9, 10);
-        x.board(1, 8, true);
-        x.board(1, 8, false);
-        x.board(2, 9, true);
-        x.board(5, 9, false);
-        x.hand(4, 2);
-        x.scrip(0, 1, 5);
-        x.scrip(0, 2, 5);
-        x.ask(0, 1, 2, 20, false);
-        x.ask(0, 4, 2, 25, true);
-        x.call(0, 60);
-        x.claim(2, 9);
-        x.dig(3);
-        Check.row(x, 0, 0, 3, 13, 23);
-        Check.row(x, 1, 2, 5, 5);
-        return x;
-    }
-
     private static void upset(LinesPromised x) {
         x.price(0);
         for (int h = 0; h < 8; h++) x.coin(h, 7);
@@ -95,13 +47,13 @@ public final class ImageTest {
     }
 
     private static void all() {
-        LinesPromised x = rich();
-        long was = everything(x);
+        LinesPromised x = Everything.rich();
+        long was = Everything.of(x);
         Check.due("image", x.image(), 3);
         upset(x);
-        Check.holds("all is other", everything(x) != was);
+        Check.holds("all is other", Everything.of(x) != was);
         Check.due("undo", x.undo(), 3);
-        Check.due("all is as it was", everything(x), was);
+        Check.due("all is as it was", Everything.of(x), was);
         // the sheets, too
         Check.due("plan", x.chain(1, 0, 1), 15);
         Check.due("its cells", x.way(15, 12), 23);
@@ -113,24 +65,24 @@ public final class ImageTest {
         Check.due("trade", x.price(0), 2);
         Check.due("purse", x.purse(0, 4), 400 - 40);
         Check.due("undo", x.undo(), 3);
-        Check.due("all is as it was", everything(x), was);
+        Check.due("all is as it was", Everything.of(x), was);
         upset(x);
-        long upset = everything(x);
+        long upset = Everything.of(x);
         x.undo();
         upset(x);
-        Check.due("the same calls do the same again", everything(x), upset);
+        Check.due("the same calls do the same again", Everything.of(x), upset);
     }
 
     private static void twice() {
-        LinesPromised x = rich();
+        LinesPromised x = Everything.rich();
         x.image();
         upset(x);
-        long was = everything(x);
+        long was = Everything.of(x);
         Check.due("a later image", x.image(), 9);
         x.dig(1);
         x.coin(0, 1);
         Check.due("undo", x.undo(), 9);
-        Check.due("as the later one", everything(x), was);
+        Check.due("as the later one", Everything.of(x), was);
     }
 
     private static void papersComeAnew() {
@@ -177,7 +129,7 @@ public final class ImageTest {
     }
 
     private static void count() {
-        LinesPromised x = rich();
+        LinesPromised x = Everything.rich();
         int[] due = {4, 15, 1, 3, 7, 2, 1, 0, 1, 2, 4};
         for (int what = 0; what < due.length; what++) Check.due("count " + what, x.count(what), due[what]);
         Check.due("no what", x.count(11), -1);
