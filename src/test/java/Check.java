@@ -7,6 +7,21 @@ final class Check {
     private static int asked;
     private static String under = "";
 
+    // a call that doesn't end must fail its test, not hold it up for good
+    static {
+        Thread watch = new Thread(() -> {
+            try {
+                Thread.sleep(300_000);
+            } catch (InterruptedException e) {
+                return;
+            }
+            System.out.println(under + "it did not end");
+            Runtime.getRuntime().halt(1);
+        });
+        watch.setDaemon(true);
+        watch.start();
+    }
+
     /** A call with one number that is looked at. */
     interface Asked {
         int of(LinesPromised x, int n);

@@ -44,10 +44,10 @@ final class Everything {
         for (int i = 2; i < 8; i++) Check.order(x, "close " + i, i, i);
         for (int i = 0; i < 17; i++) x.feed(0x676170203031323BL + i, 8);
         x.feed(0x67617020L, 4);
-        while (x.count(8) < 7) x.hand(3 + x.count(8), 20);
-        while (x.count(9) < 40) x.ask(x.count(9) % 4, x.count(9) % 8, 3, 5, x.count(9) % 2 == 0);
-        while (x.count(10) < 60) x.board(7, 10, true);
-        while (x.count(1) < 60) x.claim(x.count(1), 3);
+        for (int i = x.count(8); i < 7; i++) x.hand(3 + i, 20);
+        for (int i = x.count(9); i < 40; i++) x.ask(i % 4, i % 8, 3, 5, i % 2 == 0);
+        for (int i = x.count(10); i < 60; i++) x.board(7, 10, true);
+        for (int i = x.count(1); i < 60; i++) x.claim(i, 3);
         x.coin(6, 99999);
         x.image();
         return x;
@@ -80,6 +80,38 @@ final class Everything {
         return 31 * (31 * (31 * all + x.last(p, 0)) + x.last(p, 1)) + x.cast(p, 0);
     }
 
+    /** Changes something of all, as far as it isn't refused. */
+    static void upset(LinesPromised x) {
+        x.price(0);
+        for (int h = 0; h < 8; h++) x.coin(h, 7);
+        x.land(1, 0, 50);
+        x.land(2, 1, 2);
+        x.town(60, 3);
+        x.text(1);
+        x.tried(0);
+        Check.tape(x, "slope 0;park n");
+        x.text(0);
+        x.tried(0);
+        Check.tape(x, "x");
+        x.grant(9);
+        x.bar(8, 11);
+        x.board(2, 9, false);
+        x.board(5, 9, true);
+        x.hand(1, 1);
+        x.scrip(1, 3, 5);
+        x.ask(1, 6, 3, 50, true);
+        x.ask(2, 7, 4, 60, true);
+        x.claim(3, 9);
+        x.dig(2);
+        x.settle();
+        x.scheme(0, 2, 1, 4);
+        x.man(50);
+        x.dig(4);
+        Check.row(x, 0, 1, 4);
+        x.sheet(1, -1, 0);
+        Check.row(x, 2, 2, 4);
+    }
+
     /** The same, and what comes of it when all goes on: what no call tells by itself (tape, sheets, image) is seen, too. */
     static long andOn(LinesPromised x) {
         long all = of(x);
@@ -93,8 +125,8 @@ final class Everything {
         }
         for (int bill = 8; bill < 12; bill++) all = 31 * all + x.grant(bill);
         for (int scheme = 0; scheme < 4; scheme++) all = 31 * all + x.price(scheme);
-        x.board(2, 9, false);
         all = 31 * (31 * (31 * all + of(x)) + x.settle()) + x.dig(3);
+        upset(x);
         all = 31 * all + of(x);
         return 31 * (31 * all + x.undo()) + of(x);
     }

@@ -19,38 +19,11 @@ public final class ImageTest {
         Check.due("it stays", x.undo(), 3);
     }
 
-    private static void upset(LinesPromised x) {
-        x.price(0);
-        for (int h = 0; h < 8; h++) x.coin(h, 7);
-        x.land(1, 0, 50);
-        x.land(2, 1, 2);
-        x.town(60, 3);
-        x.text(1);
-        Check.order(x, "slope 0;park n", 0, 2);
-        Check.tape(x, "x");
-        x.grant(9);
-        x.bar(8, 11);
-        x.board(2, 9, false);
-        x.board(5, 9, true);
-        x.hand(1, 1);
-        x.scrip(1, 3, 5);
-        x.ask(1, 1, 2, 20, false);
-        x.claim(3, 9);
-        x.dig(2);
-        x.settle();
-        x.scheme(0, 2, 1, 4);
-        x.man(50);
-        x.dig(4);
-        Check.row(x, 0, 1, 4);
-        x.sheet(1, -1, 0);
-        Check.row(x, 2, 2, 4);
-    }
-
     private static void all() {
         LinesPromised x = Everything.rich();
         long was = Everything.of(x);
         Check.due("image", x.image(), 3);
-        upset(x);
+        Everything.upset(x);
         Check.holds("all is other", Everything.of(x) != was);
         Check.due("undo", x.undo(), 3);
         Check.due("all is as it was", Everything.of(x), was);
@@ -66,17 +39,17 @@ public final class ImageTest {
         Check.due("purse", x.purse(0, 4), 400 - 40);
         Check.due("undo", x.undo(), 3);
         Check.due("all is as it was", Everything.of(x), was);
-        upset(x);
+        Everything.upset(x);
         long upset = Everything.of(x);
         x.undo();
-        upset(x);
+        Everything.upset(x);
         Check.due("the same calls do the same again", Everything.of(x), upset);
     }
 
     private static void twice() {
         LinesPromised x = Everything.rich();
         x.image();
-        upset(x);
+        Everything.upset(x);
         long was = Everything.of(x);
         Check.due("a later image", x.image(), 9);
         x.dig(1);

@@ -163,6 +163,15 @@ final class SaysDebts {
         for (int holder = 0; holder < 8; holder++) y.lend(holder % 4, holder, 1 + holder);
         y.settle();
         for (int holder = 0; holder < 8; holder++) Check.due("each lender has its own", y.purse(0, holder), 10);
+        LinesPromised z = indebted(4);
+        z.coin(0, 8);
+        z.coin(1, 8);
+        z.lend(0, 0, 3);
+        z.lend(0, 1, 4);
+        Check.due("7 of 11 owed: 4 of 4 and 3 together, 2 of 4", z.along(1, 0), 4 + 2);
+        Check.due("settle", z.settle(), 1 << 8);
+        Check.due("all loans of one lender together", z.purse(0, 0), 5 + 4);
+        Check.due("of the other", z.purse(0, 1), 4 + 2);
     }
 
     private static void canPay() {
@@ -276,6 +285,16 @@ final class SaysDebts {
         Check.due("the scheme's again", x.held(0, 8), 19);
         Check.due("the scheme's again", x.held(1, 8), 21);
         Check.due("it may take some again", x.scrip(0, 0, 19), 19);
+        LinesPromised z = Check.fourSchemes();
+        z.scrip(2, 5, 2);
+        z.scrip(3, 5, 3);
+        z.scrip(3, 6, 4);
+        z.call(3, 1);
+        z.coin(6, 4);
+        Check.due("the sixth alone", z.settle(), 32);
+        Check.due("of the last scheme", z.held(3, 5), 0);
+        Check.due("of another", z.held(2, 5), 2);
+        Check.due("of the next holder", z.held(3, 6), 4);
         LinesPromised y = Check.fourSchemes();
         y.scrip(0, 0, 2);
         y.call(0, 10);

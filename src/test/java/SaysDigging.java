@@ -192,6 +192,12 @@ final class SaysDigging {
         y.man(99);
         y.dig(1);
         Check.due("two of one gauge that do not touch", y.meet(), 0);
+        for (int bill = 8; bill < 12; bill++) {
+            LinesPromised one = granted(bill);
+            one.man(99);
+            one.dig(1);
+            Check.due("one line of either gauge", one.meet(), 0);
+        }
         LinesPromised z = granted(8, 9, 10, 11);
         z.man(99);
         z.dig(1);
@@ -228,6 +234,14 @@ final class SaysDigging {
         Check.due("not joined at all", y.gauge(15), -5);
         y.grant(11);
         Check.due("0 - 1, 2 - 3, 3 - 0: the last", y.gauge(15), 4);
+        LinesPromised w = Check.fourBills();
+        w.scheme(1, 2, 0, 1);
+        Check.plan(w, 12, 3, 13, 23);
+        w.bill(13);
+        w.plan(15, 999, 999, 0);
+        w.grant(8);
+        w.grant(14);
+        Check.due("whatever was asked ahead of it", w.gauge(7), 0);
         LinesPromised z = tenLines();
         Check.due("ten", z.gauge(3), 0);
         z.grant(23);
@@ -258,6 +272,15 @@ final class SaysDigging {
         LinesPromised y = granted(9, 11, 10);
         Check.due("1 - 2, 2 - 3, 3 - 0: the middle one is place 1", y.gauge(15), 2);
         Check.due("1 and 3: place 0, or place 1", y.gauge(10), 1);
+        LinesPromised z = new LinesPromised();
+        for (int i = 0; i < 6; i++) z.town(i, 0);
+        int[] from = {0, 1, 4, 2};
+        for (int i = 0; i < 4; i++) {
+            z.scheme(from[i], from[i] + 1, i / 3, 1);
+            Check.plan(z, 3 * i, from[i], from[i] + 1);
+            z.grant(z.bill(3 * i + 1));
+        }
+        Check.due("places 0 and 1, or place 3 alone", z.gauge(15), 8);
     }
 
     private static void oneTownOrNone() {
@@ -323,6 +346,15 @@ final class SaysDigging {
         Check.due("one yard less", x.plan(7, 69, 999, 0), -5);
         x.bar(10, 11);
         Check.due("and two more", x.plan(7, 999, 999, 0), -5);
+        LinesPromised z = Check.fourBills();
+        z.claim(13, 50);
+        Check.due("all but the dear one", z.plan(15, 999, 999, 0), 13);
+        z.bar(8, 10);
+        z.bar(9, 10);
+        Check.due("10 is barred by both", z.plan(15, 999, 999, 0), 11);
+        Check.order(z, "let c<50", 0, 0);
+        Check.due("without the second, of three the first and the second bar", z.plan(15, 999, 999, 0), -5);
+        Check.due("the first and the last don't", z.plan(11, 999, 999, 0), 5);
         Check.due("one of each is fine", x.plan(3, 999, 999, 0), 1);
         Says.term(7, "and of least COINS (2 a YARD and CLAIMS, each BILL's CLAIMS by themselves), no more than told;");
         LinesPromised y = Check.fourBills();
@@ -347,6 +379,16 @@ final class SaysDigging {
         grant(x, "one for 100, not two", 5, 16, 100);
         x.claim(21, 1);
         grant(x, "two for 100, not one for more", 5, 3, 100);
+        LinesPromised z = Check.fourBills();
+        z.scheme(0, 1, 0, 1);
+        Check.plan(z, 12, 0, 10, 11, 12, 13, 3);
+        z.bill(13);
+        z.claim(1, 39);
+        grant(z, "dearer by one", 3, 1, 99);
+        z.claim(1, 1);
+        grant(z, "the same", 3, 1, 100);
+        z.claim(1, 1);
+        grant(z, "cheaper by one", 3, 16, 100);
         LinesPromised y = Check.fourBills();
         y.scheme(1, 0, 1, 1);
         Check.plan(y, 12, 3, 2, 1, 0);

@@ -234,6 +234,7 @@ final class SaysOrders {
 
     private static void open() {
         Says.term(3, "At most 5 of ! and ( are open (a ( till its ), a ! till its F ends).");
+        LinesPromised x = oneBill();
         for (int bits = 0; bits < 32; bits++) {
             StringBuilder ahead = new StringBuilder("let ");
             StringBuilder behind = new StringBuilder();
@@ -242,6 +243,8 @@ final class SaysOrders {
                 if ((bits >> i & 1) != 0) behind.append(')');
             }
             proper(ahead + "y<1" + behind);
+            let(x, ahead.substring(4) + "g=1" + behind, Integer.bitCount(bits) % 2 == 0 ? 0 : 1);
+            let(x, ahead.substring(4) + "g=0" + behind, Integer.bitCount(bits) % 2 == 0 ? 1 : 0);
             proper(ahead + "y<1" + behind + "&" + ahead.substring(4) + "y<1" + behind);
             Check.fault(ahead + "!y<1" + behind, 9);
             Check.fault(ahead + "(y<1)" + behind, 9);
@@ -250,7 +253,7 @@ final class SaysOrders {
         }
         proper("let ((((!y<1&!y<2|!y<3))))");
         proper("let !!!!!y<1|!!!!!y<2");
-        proper("let ((((((y<1))))".substring(0, 9) + "y<1&y<2)|y<3)&y<1)))");
+        proper("let (((((y<1&y<2)|y<3)&y<1)))");
         proper("let !(!(!y<1|!y<1)&!y<1)&(((((y<1)))))");
         Check.fault("let !(!(!y<1|!!y<1))", 14);
         Check.fault("let ((((!y<1&(!y<1)))))", 14);
@@ -491,6 +494,8 @@ final class SaysOrders {
         Check.tape(x, "gap 1");
         Check.due("one town", x.tried(2), -5);
         x.town(8, 0);
+        Check.tape(x, "gap 1");
+        Check.due("two towns", x.tried(2), 30);
         x.town(6, 0);
         Check.tape(x, "gap 1");
         Check.due("of 0 and 1, though a third is nearer", x.tried(2), 30);

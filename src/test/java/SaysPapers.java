@@ -351,6 +351,10 @@ final class SaysPapers {
         Check.due("coins ahead of full", x.claim(0, 0), -2);
         Check.due("cell ahead of coins", x.claim(80, 0), -1);
         Check.due("cell ahead of full", x.claim(-1, 1), -1);
+        LinesPromised y = oneOfEach();
+        for (int i = 6; i < 60; i++) y.claim(0, 1);
+        Check.due("full", y.claim(11, 500), -4);
+        let(y, 'c', 9);
     }
 
     private static void bill() {
@@ -393,6 +397,14 @@ final class SaysPapers {
         x.grant(10);
         Check.due("a granted one, too", x.bar(10, 8), 1);
         Check.due("it bars", x.grant(8), -3);
+        Check.due("one that two bar", x.bar(11, 10), 1);
+        Check.due("all that bar are looked at", x.grant(11), -3);
+        LinesPromised y = Check.fourBills();
+        y.bar(8, 11);
+        y.bar(9, 11);
+        y.grant(8);
+        Check.due("the older bar stays", y.grant(11), -3);
+        Check.due("the other way round, too", y.bar(11, 8), 0);
         Says.promise(20, "NONE; BAD: one.");
         Check.due("one", x.bar(8, 8), -2);
         for (int paper : new int[] {Integer.MIN_VALUE, -1, 0, 7, 12, Integer.MAX_VALUE}) {

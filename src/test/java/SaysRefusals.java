@@ -144,7 +144,7 @@ final class SaysRefusals {
         brimful("orders", -4, x -> x.text(0));
         brimful("schemes and papers", -4, x -> x.scheme(0, 1, 0, 1));
         brimful("papers", -4, x -> x.chain(0, 0, 1));
-        brimful("papers", -4, x -> x.claim(0, 1));
+        brimful("papers", -4, x -> x.claim(13, 1));
         brimful("papers", -4, x -> x.call(1, 1));
         brimful("papers", -4, x -> x.lend(1, 6, 1));
         brimful("votes", -4, x -> x.board(0, 8, true));

@@ -222,13 +222,13 @@ final class SaysScrip {
         x.coin(7, 900);
         x.coin(4, 900);
         x.ask(0, 0, 1, 1, false);
-        x.ask(1, 5, 2, 30, false);
+        x.ask(1, 7, 4, 40, true);
         x.ask(0, 2, 1, 2, true);
         x.ask(1, 6, 3, 20, false);
         x.ask(0, 1, 3, 4, false);
-        x.ask(1, 7, 4, 40, true);
-        x.ask(0, 3, 2, 6, true);
         x.ask(1, 4, 4, 25, true);
+        x.ask(0, 3, 2, 6, true);
+        x.ask(1, 5, 2, 30, false);
         Check.due("of the one", x.price(0), 2);
         haves(x, "of the one", 4, 1, 4, 4, 0, 1000, 2, 995);
         Check.due("those of the other stand", x.count(9), 4);

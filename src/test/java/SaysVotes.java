@@ -119,6 +119,10 @@ final class SaysVotes {
         order(jobs(4, 2, 3, 3, 2, 4), 12, 1, 2, 0);
         order(jobs(4, 2, 3, 3, 2, 4), 13, 0, 2, 1);
         order(jobs(4, 2, 3, 3, 2, 4), 14, 0, 1, 2);
+        int[][] heavy = {{1, 9, 2, 8, 9, 1, 8, 2}, {1, 7, 3, 1, 1, 6, 5, 1, 2, 2}, {4, 1, 1, 4, 2, 6, 6, 2, 3, 3}, {9, 1, 8, 2, 1, 9}};
+        for (int[] hours : heavy) {
+            for (int hour = 1; hour < 40; hour++) order(jobs(hours), hour, VotesJobsTest.best(hours, hour));
+        }
     }
 
     private static void board() {

@@ -81,12 +81,12 @@ public final class VotesJobsTest {
         for (int run = 0; run < 30; run++) {
             LinesPromised x = new LinesPromised();
             int n = run % 8;
-            int[][] jobs = new int[n][2];
+            int[] jobs = new int[2 * n];
             for (int i = 0; i < n; i++) {
                 seed = seed * 1103515245 + 12345;
-                jobs[i][0] = 1 + (seed >>> 16) % 9;
-                jobs[i][1] = 1 + (seed >>> 20) % 9;
-                x.hand(jobs[i][0], jobs[i][1]);
+                jobs[2 * i] = 1 + (seed >>> 16) % 9;
+                jobs[2 * i + 1] = 1 + (seed >>> 20) % 9;
+                x.hand(jobs[2 * i], jobs[2 * i + 1]);
             }
             for (int h = 1; h < 70; h += 4) {
                 int[] best = best(jobs, h);
@@ -96,18 +96,19 @@ public final class VotesJobsTest {
         }
     }
 
-    private static int[] best(int[][] jobs, int h) {
+    /** The least of the longest orders of jobs (hours of survey and of press by turns) that are all printed by an hour. */
+    static int[] best(int[] jobs, int h) {
         return best(jobs, h, new int[0], 0, 0, 0);
     }
 
-    private static int[] best(int[][] jobs, int h, int[] row, int begun, int a, int b) {
+    private static int[] best(int[] jobs, int h, int[] row, int begun, int a, int b) {
         int[] best = row;
-        for (int j = 0; j < jobs.length; j++) {
-            int printed = Math.max(a + jobs[j][0], b) + jobs[j][1];
+        for (int j = 0; j < jobs.length / 2; j++) {
+            int printed = Math.max(a + jobs[2 * j], b) + jobs[2 * j + 1];
             if ((begun >> j & 1) != 0 || printed > h) continue;
             int[] more = java.util.Arrays.copyOf(row, row.length + 1);
             more[row.length] = j;
-            int[] found = best(jobs, h, more, begun | 1 << j, a + jobs[j][0], printed);
+            int[] found = best(jobs, h, more, begun | 1 << j, a + jobs[2 * j], printed);
             if (found.length > best.length) best = found;
         }
         return best;
