@@ -101,6 +101,7 @@ final class Everything {
         x.scrip(1, 3, 5);
         x.ask(1, 6, 3, 50, true);
         x.ask(2, 7, 4, 60, true);
+        x.ask(2, 0, 1, 1, false);
         x.claim(3, 9);
         x.dig(2);
         x.settle();

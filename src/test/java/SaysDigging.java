@@ -504,6 +504,8 @@ final class SaysDigging {
         for (int town = 0; town < 4; town++) {
             Check.due("one town takes nothing", x.plan(1 << town, 0, 0, 0), 0);
             Check.due("one town takes nothing", x.plan(1 << town, 0, 0, 1), 0);
+            Check.due("however much there is", x.plan(1 << town, 99999, 999999, 0), 0);
+            Check.due("however much there is", x.plan(1 << town, 99999, 999999, 1), 0);
         }
         Check.due("no town takes nothing", x.plan(0, 0, 0, 0), 0);
         Check.due("without bills", Check.fourTowns().plan(3, 99999, 999999, 1), -5);

@@ -128,6 +128,12 @@ final class SaysKnown {
             Check.due("no claim", x.count(1), 12);
             Check.due("no day went by", x.known(0, 0), -1);
         }
+        for (int i = 0; i < 3; i++) {
+            for (int scheme = 0; scheme < 8; scheme++) Check.due("up to twelve schemes", x.scheme(0, 1, 0, 5), 12 + scheme);
+            Check.due("no more", x.scheme(0, 1, 0, 5), -4);
+            Check.due("all their shares", x.scrip(19, 0, 5), 5);
+            x.undo();
+        }
         x.dig(2);
         x.image();
         x.dig(2);

@@ -404,6 +404,9 @@ final class SaysPapers {
         y.bar(9, 11);
         y.grant(8);
         Check.due("the older bar stays", y.grant(11), -3);
+        y.bar(10, 8);
+        y.bar(10, 9);
+        Check.due("the older bar stays", y.grant(10), -3);
         Check.due("the other way round, too", y.bar(11, 8), 0);
         Says.promise(20, "NONE; BAD: one.");
         Check.due("one", x.bar(8, 8), -2);
